@@ -81,6 +81,8 @@ public final class PromiseTests {
         for (int what = 0; what <= 6; what++) {
             due(1, "count(" + what + ")", x.count(what), 0);
         }
+        due(5, "fault(0) ahead of any", x.fault(0), 0);
+        due(5, "fault(1) ahead of any", x.fault(1), -1);
         due(1, "rights()", x.rights(), -2);
         due(1, "back(0)", x.back(0), -6);
         due(1, "write(0, 0, 0)", x.write(0, 0, 0), -6);
@@ -175,6 +177,11 @@ public final class PromiseTests {
         fault("hang 0 1 2;", 1, 0);
         fault("Hall places 3;", 1, 0);
         fault("halls places 3;", 1, 0);
+        fault("hallz places 3;", 1, 0);
+        fault("hallaplaces 3;", 1, 0);
+        fault("call places 3;", 1, 0);
+        fault("hall9places 3;", 1, 4);
+        fault("hall0places 3;", 1, 4);
         fault("hal l places 3;", 1, 0);
         fault("hall place 3;", 1, 5);
         fault("hall 3;", 1, 5);
@@ -223,6 +230,12 @@ public final class PromiseTests {
         fault(THREE + "leap 9; #", 2, 19);
         fault(THREE + "leap 9#", 2, 19);
         fault(THREE + "leap 1; apart", 1, 27);
+        SwapTrophies cut = new SwapTrophies();
+        put(cut, THREE + "leap11");
+        cut.end(19);
+        due(4, "a cut number", cut.hall(), -4);
+        due(5, "what is cut off is gone", cut.fault(0), 1);
+        due(5, "what is cut off is gone", cut.fault(1), 19);
         StringBuilder laws = new StringBuilder(THREE);
         for (int i = 0; i < 6; i++) {
             laws.append("law 0 with 1 each 6 from ").append(i).append(";");
@@ -722,6 +735,9 @@ public final class PromiseTests {
         due(60, "luck(6, 1, 1, 0)", x.luck(6, 1, 1, 0), 0);
         due(60, "luck(6, 1, 1, 2)", x.luck(6, 1, 1, 2), 1);
         due(60, "luck(5, 20, 0, 2)", x.luck(5, 20, 0, 2), 20);
+        // From seed 0: 12345, its draw 0.
+        due(59, "drawn(0, 1, 0)", x.drawn(0, 1, 0), 1);
+        due(60, "luck(0, 1, 1, 2)", x.luck(0, 1, 1, 2), 1);
         x.swap(0, 1);
         due(59, "drawn(5, 1, 0) from now on", x.drawn(5, 1, 0), 2);
         due(59, "the greatest seed", x.drawn(2_000_000_000, 60, 0) >= 0 ? 0 : 1, 0);

@@ -95,10 +95,10 @@ public final class SwapTrophies {
 
     public int hall() {
         tape.readInto(draft);
-        tape.size = 0;
         if (tape.fault != 0) {
             return FAULTY;
         }
+        tape.size = 0;
         hall.become(draft);
         return hall.lines;
     }

@@ -131,8 +131,13 @@ public final class PromiseTests {
         due(4, "all stays: places", x.count(0), 7);
         due(4, "all stays: acts", x.count(3), 1);
         due(4, "all stays: row", x.at(0), 6);
-        put(x, THREE);
-        due(4, "the next text is a new one", x.hall(), 1);
+        due(4, "all stays: the tape", x.count(5), 22);
+        due(4, "the same fault again", x.hall(), -4);
+        due(3, "cut where the fault is", x.end(x.fault(1)), 20);
+        put(x, "2;");
+        due(4, "the text mended", x.hall(), 2);
+        due(4, "places", x.count(0), 3);
+        due(4, "the tape is empty then", x.count(5), 0);
         put(x, " \n ");
         due(4, "blanks alone", x.hall(), 0);
         due(4, "there is none then", x.rights(), -2);

@@ -383,7 +383,7 @@ public final class SwapTrophies {
         }
         Slider ready = readySlider();
         ready.aimAt(hall, hall.now);
-        return ready.reached;
+        return ready.rowsReached();
     }
 
     public int far() {
@@ -392,7 +392,7 @@ public final class SwapTrophies {
         }
         Slider ready = readySlider();
         ready.aimAt(hall, hall.now);
-        return ready.farthest;
+        return ready.mostLeaps();
     }
 
     // ---- how it hung at first by what was seen
@@ -1580,55 +1580,78 @@ public final class SwapTrophies {
         private static final int HEAD_BITS = 3;
         private static final int HEAD_MASK = 7;
 
-        int reached = 0;
-        int farthest = 0;
-        private final int[] leapsTo = new int[ROWS];
+        // By the BLANK's PLACE in the row aimed at: one search each is enough for a hall's leaps.
+        // No leaps need more than 63 to lead anywhere, so a byte holds them.
+        private final byte[][] leapsTo = new byte[MAX_PLACES][ROWS];
+        private final boolean[] isSearched = new boolean[MAX_PLACES];
+        private final int[] reached = new int[MAX_PLACES];
+        private final int[] farthest = new int[MAX_PLACES];
         private final int[] queue = new int[ROWS];
         private final int[] names = new int[MAX_PLACES];
         private final int[] walk = new int[MAX_PLACES];
         private int places = 0;
         private int leaps = 0;
-        private int home = NONE;
+        private int home = 0;
 
         /**
          * Counts all LEAPS from this row. Only the BLANK's PLACE tells rows apart here: the other
          * HEADS are named anew as they hang in it, so that one search does for many rows.
          */
         void aimAt(Hall hall, int[] row) {
-            int blank = hall.blank();
-            int name = 0;
-            for (int place = 0; place < hall.places; place++) {
-                boolean isBlank = row[place] == blank;
-                names[row[place]] = isBlank ? blank : name;
-                name += isBlank ? 0 : 1;
-            }
-            int blankPlace = Rows.placeIn(row, hall.places, blank);
-            boolean isKnown = places == hall.places && leaps == hall.leaps && home == blankPlace;
-            if (!isKnown && blankPlace >= 0) {
+            if (places != hall.places || leaps != hall.leaps) {
                 places = hall.places;
                 leaps = hall.leaps;
-                home = blankPlace;
+                forgetSearches();
+            }
+            int blank = hall.blank();
+            int name = 0;
+            for (int place = 0; place < places; place++) {
+                if (row[place] == blank) {
+                    names[blank] = blank;
+                    home = place;
+                } else {
+                    names[row[place]] = name;
+                    name++;
+                }
+            }
+            if (!isSearched[home]) {
+                isSearched[home] = true;
                 search(packed(row));
             }
         }
 
+        private void forgetSearches() {
+            for (int place = 0; place < MAX_PLACES; place++) {
+                isSearched[place] = false;
+            }
+        }
+
+        int rowsReached() {
+            return reached[home];
+        }
+
+        int mostLeaps() {
+            return farthest[home];
+        }
+
         private void search(int from) {
-            Arrays.fill(leapsTo, NONE);
-            reached = 0;
-            farthest = 0;
+            Arrays.fill(leapsTo[home], (byte) NONE);
+            reached[home] = 0;
+            farthest[home] = 0;
             note(from, 0);
-            for (int i = 0; i < reached && i < ROWS; i++) {
+            for (int i = 0; i < reached[home] && i < ROWS; i++) {
                 spreadFrom(queue[i]);
             }
         }
 
         private void note(int pack, int count) {
             int rank = rankOf(pack);
-            if (rank >= 0 && rank < ROWS && reached < ROWS && leapsTo[rank] == NONE) {
-                leapsTo[rank] = count;
-                queue[reached] = pack;
-                reached++;
-                farthest = count;
+            int known = reached[home];
+            if (rank >= 0 && rank < ROWS && known < ROWS && leapsTo[home][rank] == NONE) {
+                leapsTo[home][rank] = (byte) count;
+                queue[known] = pack;
+                reached[home] = known + 1;
+                farthest[home] = count;
             }
         }
 
@@ -1678,7 +1701,7 @@ public final class SwapTrophies {
 
         private int leapsToPack(int pack) {
             int rank = rankOf(pack);
-            return rank >= 0 && rank < ROWS ? leapsTo[rank] : NONE;
+            return rank >= 0 && rank < ROWS ? leapsTo[home][rank] : NONE;
         }
 
         int placeOfLeap(int[] row, int wanted) {

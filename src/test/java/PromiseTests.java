@@ -1,9 +1,8 @@
 /** Each promise of the document with answers worked out by hand: ordinary ones, edges, wrong inputs. */
-public final class PromiseTests {
+public final class PromiseTests extends Kit {
     private static final String FIVE = "hall places 5; hang 1 0 3 4 2; law 0 with 1 each 2 from 0;\n"
             + "law 2 with 4 each 3 from 1; leap 1; leap 2; suit 0 0 9; suit 1 1 7; suit 4 2 5; apart 0 3; apart 1 2;";
     private static final String THREE = "hall places 3;";
-    private static int wrong = 0;
 
     public static void main(String[] args) {
         newObject();
@@ -33,47 +32,7 @@ public final class PromiseTests {
         wrongInputs();
         noHall();
         refusalsInOrder();
-        System.out.println(wrong == 0 ? "all promises hold" : wrong + " answers are not as promised");
-        if (wrong != 0) {
-            System.exit(1);
-        }
-    }
-
-    private static void due(int promise, String call, long got, long want) {
-        if (got != want) {
-            wrong++;
-            System.out.println("promise " + promise + ": " + call + " answered " + got + ", due is " + want);
-        }
-    }
-
-    private static SwapTrophies hung(String text) {
-        SwapTrophies x = new SwapTrophies();
-        put(x, text);
-        if (x.hall() <= 0) {
-            wrong++;
-            System.out.println("not taken: " + text + ", fault " + x.fault(0) + " at " + x.fault(1));
-        }
-        return x;
-    }
-
-    private static void put(SwapTrophies x, String text) {
-        int had = x.count(5);
-        for (int i = 0; i < text.length(); i += 20) {
-            int[] v = new int[5];
-            for (int j = 0; j < 20; j++) {
-                int b = i + j < text.length() ? text.charAt(i + j) : 0;
-                v[j / 4] = v[j / 4] << 8 | b;
-            }
-            x.feed(v[0], v[1], v[2], v[3], v[4]);
-        }
-        x.end(had + text.length());
-    }
-
-    private static void rowOf(SwapTrophies x, int slot, int width, long... numbers) {
-        due(65, "row", x.row(slot, width, numbers.length), 0);
-        for (int i = 0; i < numbers.length; i++) {
-            due(66, "write", x.write(slot, i, numbers[i]), 0);
-        }
+        finish("all promises hold");
     }
 
     private static void newObject() {

@@ -52,4 +52,47 @@ abstract class Kit {
             due(66, "write", x.write(slot, i, numbers[i]), 0);
         }
     }
+
+    /** A text that is refused with this fault at this place; one behind it is not. */
+    static void fault(String text, int kind, int place) {
+        SwapTrophies x = new SwapTrophies();
+        put(x, text);
+        due(4, "hall() of " + text, x.hall(), -4);
+        due(5, "fault(0) of " + text, x.fault(0), kind);
+        due(5, "fault(1) of " + text, x.fault(1), place);
+        due(5, "fault(2)", x.fault(2), -1);
+        due(5, "fault(-1)", x.fault(-1), -1);
+        x.end(0);
+        x.hall();
+        due(5, "fault(0) of a good one behind it", x.fault(0), 0);
+        due(5, "fault(1) of a good one behind it", x.fault(1), -1);
+    }
+
+    /** All that can be seen of a hall, its acts, the tape's length and the slots' number (some 90 calls). */
+    static String seen(SwapTrophies x) {
+        StringBuilder all = new StringBuilder();
+        for (int what = 0; what <= 6; what++) {
+            all.append(x.count(what)).append(' ');
+        }
+        all.append(x.nights()).append(" row");
+        int places = x.count(0);
+        for (int i = 0; i < places; i++) {
+            all.append(' ').append(x.at(i)).append('/').append(x.apart(i));
+            for (int place = 0; place < places; place++) {
+                all.append(',').append(x.suits(i, place));
+            }
+        }
+        for (int law = 0; law < x.count(1); law++) {
+            all.append(" law");
+            for (int what = 0; what < 4; what++) {
+                all.append(' ').append(x.law(law, what));
+            }
+        }
+        return all.toString();
+    }
+
+    static void stays(int promise, String behind, SwapTrophies x, String was) {
+        String is = seen(x);
+        due(promise, behind + ": it was " + was + " and is " + is + ";", is.equals(was) ? 0 : 1, 0);
+    }
 }

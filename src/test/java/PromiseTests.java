@@ -117,20 +117,6 @@ public final class PromiseTests extends Kit {
         return x.hall();
     }
 
-    private static void fault(String text, int kind, int place) {
-        SwapTrophies x = new SwapTrophies();
-        put(x, text);
-        due(4, "hall() of " + text, x.hall(), -4);
-        due(5, "fault(0) of " + text, x.fault(0), kind);
-        due(5, "fault(1) of " + text, x.fault(1), place);
-        due(5, "fault(2)", x.fault(2), -1);
-        due(5, "fault(-1)", x.fault(-1), -1);
-        x.end(0);
-        x.hall();
-        due(5, "fault(0) of a good one behind it", x.fault(0), 0);
-        due(5, "fault(1) of a good one behind it", x.fault(1), -1);
-    }
-
     private static void faults() {
         fault("hall places 3", 1, 13);
         fault("hall places 3 \n", 1, 15);
@@ -312,20 +298,10 @@ public final class PromiseTests extends Kit {
         // Twelve turns of 60 nights: the longest that a hall needs to come round.
         SwapTrophies z = hung("hall places 7;hang 2 1 3 0 4 5 6;law 6 with 4 each 5 from 2;law 0 with 2 each 3 from 2;"
                 + "law 4 with 0 each 4 from 1;law 1 with 5 each 3 from 1;law 2 with 3 each 2 from 1;law 3 with 1 each 5 from 2;");
-        due(14, "whole() night by night", firstWhole(z), 719);
         due(14, "whole()", z.whole(), 719);
         due(29, "finest(5000)", z.finest(5000), 719);
         due(29, "finest(719)", z.finest(719), 719);
         due(29, "finest(718)", z.finest(718) < 719 ? 0 : 1, 0);
-    }
-
-    private static int firstWhole(SwapTrophies x) {
-        for (int n = 0; n <= 5000; n++) {
-            if (x.right(n) == x.count(0)) {
-                return n;
-            }
-        }
-        return -1;
     }
 
     private static void rightness() {

@@ -62,6 +62,16 @@ public final class EdgeActTests extends Kit {
         // What hangs now does not matter: the place is told.
         five.swap(4, 0);
         due(51, "wherever it hangs", five.takes(1), 0);
+        // A hall behind another: its game is its own, whichever call asks first.
+        take(five, TWO);
+        due(50, "one lead", five.wins(0), 1);
+        take(five, TWO + "leap 2;");
+        due(50, "no lead", five.wins(0), 0);
+        take(five, TWO);
+        due(51, "one lead", five.takes(0), 1);
+        take(five, TWO + "leap 2;");
+        due(51, "no lead", five.takes(0), -1);
+        due(51, "asked first", hung(TWO).takes(1), 0);
     }
 
     /** Promises 50, 51: "-2: there is no such PLACE". */
@@ -98,6 +108,12 @@ public final class EdgeActTests extends Kit {
         due(52, "one night too few, 0 / 1", y.chance(0, 5, 1), 1);
         due(52, "just enough", y.chance(0, 6, 0), 1);
         due(52, "just enough", y.chance(0, 6, 1), 46656);
+        y.swap(0, 6);
+        for (int place = 0; place < 7; place++) {
+            due(52, "one night from the left end", y.chance(place, 1, 0), above[6 - place]);
+            due(52, "one night from the left end", y.chance(place, 1, 1), below[6 - place]);
+            due(52, "no night, at the left end", y.chance(place, 0, 0), place == 0 ? 1 : 0);
+        }
     }
 
     /** "FRACTIONS are told in lowest terms", also such as no int holds. */
@@ -261,11 +277,24 @@ public final class EdgeActTests extends Kit {
         stays(57, "anew()", x, was);
         due(56, "none left", x.undo(), -5);
         due(57, "none left", x.anew(), 0);
+        // Without a hang all come back to where they hang without, whatever hall was before.
+        take(x, THREE);
+        x.swap(0, 2);
+        x.anew();
+        due(57, "without a hang", x.rights(), 7);
+        due(57, "without a hang, at once", anewOfTwo(), 3);
         SwapTrophies none = new SwapTrophies();
         due(57, "no hall", none.anew(), -2);
         due(56, "no hall", none.undo(), -2);
         due(55, "no hall", none.night(), -2);
         due(58, "no hall", none.nights(), -2);
+    }
+
+    private static int anewOfTwo() {
+        SwapTrophies x = hung(TWO);
+        x.swap(0, 1);
+        x.anew();
+        return x.rights();
     }
 
     /** Promise 58. */
@@ -491,6 +520,20 @@ public final class EdgeActTests extends Kit {
         x.undo();
         due(63, "an image in place of another", x.back(1), 0);
         due(63, "an image in place of another", x.count(3), 1);
+        // Acts of the image are taken back then, not those that came behind it.
+        take(x, THREE);
+        x.swap(0, 1);
+        x.swap(1, 2);
+        x.image(2);
+        x.anew();
+        x.night();
+        x.night();
+        x.back(2);
+        due(64, "1 2 0, kept", x.at(0), 1);
+        due(64, "the acts of the image", x.undo(), 1);
+        due(64, "1 0 2", x.at(1), 0);
+        due(64, "the acts of the image", x.undo(), 0);
+        due(64, "0 1 2", x.rights(), 7);
     }
 
     /** Promises 63, 64: an object without a HALL can be kept, too; TAPE and SLOTS are none of it. */

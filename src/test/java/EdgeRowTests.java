@@ -63,6 +63,16 @@ public final class EdgeRowTests extends Kit {
             }
             toldIs(new long[] {0, 1, 2}, width, 0);
         }
+        // One is told twice, so that one is missing, whichever it is.
+        for (int missing = 0; missing < 3; missing++) {
+            for (int twice = 0; twice < 3; twice++) {
+                long[] row = {0, 1, 2};
+                row[missing] = twice;
+                if (missing != twice) {
+                    toldIs(row, 0, -2);
+                }
+            }
+        }
         // What is within 8 bytes is not cut to 4 when it is read.
         toldIs(new long[] {0, 1, 2 + (1L << 32)}, 3, -2);
         toldIs(new long[] {1L << 32, 1, 2}, 3, -2);
@@ -174,6 +184,14 @@ public final class EdgeRowTests extends Kit {
             due(32, "the least row of places", y.slides(0, i), i);
         }
         due(32, "behind the last", y.slides(0, 3), -1);
+        // By 0 1 2 3 it would be as few, but no leap of 3 is told.
+        SwapTrophies z = hung(FOUR + "leap 1; leap 2;");
+        rowOf(z, 0, 0, 1, 2, 0, 3);
+        int[] places = {2, 0, 1, 3};
+        due(31, "four leaps", z.slide(0), 4);
+        for (int i = 0; i < 4; i++) {
+            due(32, "by told leaps alone", z.slides(0, i), places[i]);
+        }
     }
 
     /** Promises 33, 34: "(it, too)". */
@@ -201,6 +219,15 @@ public final class EdgeRowTests extends Kit {
         due(33, "other leaps", w.reach(), 3);
         take(w, FOUR + "leap 3;");
         due(33, "other places", w.reach(), 2);
+        for (int place = 0; place < 3; place++) {
+            String hang = place == 0 ? "hang 2 0 1;" : place == 1 ? "hang 0 2 1;" : "";
+            take(w, THREE + hang + "leap 2;");
+            due(33, "by leaps of 2 from place " + place, w.reach(), place == 1 ? 1 : 2);
+            due(34, "by leaps of 2 from place " + place, w.far(), place == 1 ? 0 : 1);
+            take(w, THREE + hang);
+            due(33, "by leaps of 1 from place " + place, w.reach(), 3);
+            due(34, "by leaps of 1 from place " + place, w.far(), place == 1 ? 1 : 2);
+        }
     }
 
     /** Promise 35: "a PLACE, n (0 .. 999), a HEAD ... -2: ... a number is none such". */
@@ -314,6 +341,10 @@ public final class EdgeRowTests extends Kit {
         due(35, "one row left", x.fits(0), 1);
         due(37, "none leaves fewer", x.ask(0), -1);
         due(38, "as now", x.leaves(0), 1);
+        rowOf(x, 0, 0, 0, 0, 1, 2, 0, 0, 1, 0, 2);
+        due(35, "all seen", x.fits(0), 1);
+        due(37, "none leaves fewer", x.ask(0), -1);
+        due(38, "as now", x.leaves(0), 1);
         rowOf(x, 0, 0, 0, 0, 1, 0, 0, 0);
         due(35, "no row left", x.fits(0), 0);
         due(37, "none leaves fewer", x.ask(0), -1);
@@ -410,9 +441,17 @@ public final class EdgeRowTests extends Kit {
         z.swap(0, 1);
         due(44, "one swap", z.parts(), 1);
         due(43, "the least, whatever hangs now", z.hang(0), 0);
-        // A hall behind another: its pairs are forgotten.
+        // A hall behind another: its pairs are forgotten, whichever call asks first.
         take(z, THREE);
         due(42, "all of three", z.hangs(), 6);
+        take(z, THREE + "apart 0 1;");
+        due(43, "2 in the middle", z.hang(1), 2);
+        take(z, THREE);
+        due(44, "as it hangs", z.parts(), 0);
+        take(z, THREE + "apart 0 1; apart 1 2;");
+        due(44, "1 beside none", z.parts(), -1);
+        due(44, "one swap, asked first", hung(THREE + "apart 0 1;").parts(), 1);
+        due(43, "asked first", hung(THREE + "apart 0 1;").hang(2), 1);
     }
 
     /** Promises 45 to 47: the greatest sums, ways, and "-2: there is none such". */
@@ -441,6 +480,18 @@ public final class EdgeRowTests extends Kit {
         SwapTrophies z = hung(TWO + "hang 1 0; suit 0 0 9; apart 0 1;");
         due(45, "by any row", z.best(), 9);
         due(46, "by any row", z.bests(0), 0);
+        // A hall behind another, lesser or greater, whichever call asks first.
+        take(z, text.toString());
+        due(47, "one way", z.ways(), 1);
+        take(z, THREE);
+        due(45, "a lesser hall", z.best(), 0);
+        take(z, text.toString());
+        due(46, "a greater hall", z.bests(0), 6);
+        take(z, TWO + "suit 1 0 3;");
+        due(46, "a lesser hall", z.bests(0), 1);
+        due(45, "a lesser hall", z.best(), 3);
+        due(46, "asked first", hung(TWO + "suit 1 0 3;").bests(1), 0);
+        due(47, "asked first", hung(TWO + "suit 1 0 3;").ways(), 1);
     }
 
     /** Promises 48, 49: "if more than now, the first of several. NONE: none". */
@@ -459,6 +510,10 @@ public final class EdgeRowTests extends Kit {
         due(49, "the ends", hung(SEVEN + "suit 6 0 1;").trade(), 6);
         due(49, "the first of several", hung(SEVEN + "suit 6 5 1; suit 2 1 1; suit 3 2 1;").trade(), 12);
         due(49, "the most, not the first", hung(SEVEN + "suit 6 5 2; suit 2 1 1;").trade(), 56);
+        due(49, "what the lesser place loses", hung(TWO + "suit 0 0 3; suit 0 1 2;").trade(), -1);
+        due(49, "what the other place loses", hung(TWO + "suit 1 1 3; suit 1 0 2;").trade(), -1);
+        due(49, "what both lose", hung(TWO + "suit 0 0 3; suit 1 1 3; suit 0 1 5;").trade(), -1);
+        due(49, "what both win", hung(TWO + "suit 0 0 3; suit 1 1 3; suit 0 1 5; suit 1 0 2;").trade(), 1);
         StringBuilder text = new StringBuilder(SEVEN);
         for (int i = 0; i < 7; i++) {
             text.append("suit ").append(i).append(' ').append(i).append(" 99;");

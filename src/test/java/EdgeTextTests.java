@@ -110,6 +110,16 @@ public final class EdgeTextTests extends Kit {
         x.end(14);
         due(2, "feed behind what is left", x.feed(0x20202020, 0x20202020, 0x20202020, 0x20202020, 0x20202020), 34);
         due(3, "what was cut off does not come back", x.hall(), 1);
+        // A token that is cut ends there, of whatever kind the bytes behind it were.
+        String[] longer = {"halls", THREE + "leap 11", THREE + "leap 1;;", THREE + "leap 1  ;", THREE + "leapt"};
+        int[] places = {4, 20, -1, 22, 18};
+        for (int i = 0; i < longer.length; i++) {
+            put(x, longer[i]);
+            x.end(longer[i].length() - 1);
+            due(3, "a token that is cut", x.hall(), places[i] < 0 ? 2 : -4);
+            due(3, "a token that is cut", x.fault(1), places[i]);
+            x.end(0);
+        }
         put(x, THREE);
         due(3, "end(0)", x.end(0), 0);
         due(3, "end(0) of none", x.end(0), 0);

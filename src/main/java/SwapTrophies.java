@@ -1587,11 +1587,18 @@ public final class SwapTrophies {
         private final int[] reached = new int[MAX_PLACES];
         private final int[] farthest = new int[MAX_PLACES];
         private final int[] queue = new int[ROWS];
+        private final int[] bitCounts = new int[1 << MAX_PLACES];
         private final int[] names = new int[MAX_PLACES];
         private final int[] walk = new int[MAX_PLACES];
         private int places = 0;
         private int leaps = 0;
         private int home = 0;
+
+        Slider() {
+            for (int bits = 1; bits < 1 << MAX_PLACES; bits++) {
+                bitCounts[bits] = bitCounts[bits >> 1] + (bits & 1);
+            }
+        }
 
         /**
          * Counts all LEAPS from this row. Only the BLANK's PLACE tells rows apart here: the other
@@ -1683,13 +1690,16 @@ public final class SwapTrophies {
             return pack;
         }
 
+        /** Rows are ranked as they rise; bits are counted by a table, since searches ask for many ranks. */
         private int rankOf(int pack) {
             int rank = 0;
             int free = (1 << places) - 1;
-            for (int place = 0; place < places; place++) {
-                int bit = 1 << headIn(pack, place);
-                rank = rank * (places - place) + Integer.bitCount(free & bit - 1);
+            int rest = pack;
+            for (int left = places; left > 0; left--) {
+                int bit = 1 << (rest & HEAD_MASK);
+                rank = rank * left + bitCounts[free & bit - 1];
                 free &= ~bit;
+                rest >>= HEAD_BITS;
             }
             return rank;
         }
